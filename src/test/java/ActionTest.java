@@ -188,7 +188,7 @@ public final class ActionTest {
     }
 
     private static void undoOfEach() {
-        LanternBoats x = Coasts.twoLights(6, 0);
+        LanternBoats x = Coasts.twoLights(6, 2);
         x.ticks(6);
         x.talk(0, 20);
         String[] seen = new String[9];

@@ -39,6 +39,9 @@ public final class ForecastTest {
         LanternBoats full = Coasts.twoLights(1, 0);
         full.boat(100, 0);
         handed(full, 0, -1, -1, -1);
+        LanternBoats keptFree = Coasts.twoLights(1, 1);
+        keptFree.boat(100, 0);
+        handed(keptFree, 0, 9, 1, 58);
     }
 
     /** The lighthouse of n 20 is half as bright from the time 20 on: 250 and 400. */
@@ -149,7 +152,8 @@ public final class ForecastTest {
             x.set(1, 1 + i % 3);
             x.set(3, 5 + i % 40);
             for (int l = 0; l < 3 + i % 3; l++) {
-                x.light((i * 37 + l * 61) % 200, 20 + (i * 7 + l * 31) % 80, l % 3, 1 + (i + l) % 20, 2 + i % 5, i % 2);
+                x.light((i * 37 + l * 61) % 200, 20 + (i * 7 + l * 31) % 80, l % 3, 1 + (i + l) % 20,
+                        2 + i % 5, i % 2);
             }
             for (int b = 0; b < 8; b++) {
                 x.boat((i * 11 + b * 29) % 200, (i + 3 * b) % 13 - 6);
@@ -229,6 +233,14 @@ public final class ForecastTest {
         for (int k : new int[] {-1, Integer.MIN_VALUE}) {
             CHECK.outOfRange("border(" + k + ")", () -> x.border(k));
         }
+        // What shines from the one end to the other has no border at the ends.
+        LanternBoats y = new LanternBoats();
+        y.light(100, 10, 0, 1, 1, 0);
+        y.light(0, 99, 2, 1, 1, 0);
+        y.light(199, 99, 2, 2, 1, 0);
+        y.lean(0, -30);
+        CHECK.due("in the middle", 101, y.border(0));
+        CHECK.due("nowhere else", -1, y.border(1));
     }
 
     private static void room() {

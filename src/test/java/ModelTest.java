@@ -1,5 +1,6 @@
 import java.lang.reflect.InvocationTargetException;
 import java.lang.reflect.Method;
+import java.lang.reflect.Modifier;
 import java.util.Arrays;
 import java.util.Comparator;
 import java.util.Random;
@@ -25,7 +26,7 @@ public final class ModelTest {
 
     public static void main(String[] args) throws Exception {
         Method[] methods = Arrays.stream(LanternBoats.class.getDeclaredMethods())
-                .filter(m -> java.lang.reflect.Modifier.isPublic(m.getModifiers()))
+                .filter(m -> Modifier.isPublic(m.getModifiers()))
                 .sorted(Comparator.comparing(Method::getName)).toArray(Method[]::new);
         long handed = 0;
         long backs = 0;

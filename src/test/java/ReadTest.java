@@ -167,13 +167,17 @@ public final class ReadTest {
         LanternBoats x = new LanternBoats();
         x.light(50, 50, 2, 1, 1, 0);
         x.light(50, 50, 2, 20, 1, 0);
+        x.light(50, 50, 2, 3, 1, 0);
+        x.light(50, 50, 2, 4, 1, 0);
         int[] places = {0, 49, 50, 51, 199};
         int[] odd = {0, 0, 500, 454, 31};
         int[] even = {83, 454, 500, 0, 0};
         for (int time = 0; time < 3; time++) {
             for (int i = 0; i < places.length; i++) {
-                CHECK.due("n odd at " + places[i], odd[i], x.brightness(0, places[i]));
-                CHECK.due("n even at " + places[i], even[i], x.brightness(1, places[i]));
+                CHECK.due("n 1 at " + places[i], odd[i], x.brightness(0, places[i]));
+                CHECK.due("n 20 at " + places[i], even[i], x.brightness(1, places[i]));
+                CHECK.due("n 3 at " + places[i], odd[i], x.brightness(2, places[i]));
+                CHECK.due("n 4 at " + places[i], even[i], x.brightness(3, places[i]));
             }
             x.ticks(1);
         }

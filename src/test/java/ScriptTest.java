@@ -120,6 +120,8 @@ public final class ScriptTest {
         one(611001, 0);
         one(701046, 0);
         one(801002, 0);
+        one(800100, 0);
+        one(880100, 0);
         one(800102, 0);
         one(900010, 0);
         one(900100, 0);
@@ -131,6 +133,7 @@ public final class ScriptTest {
         for (int n : new int[] {-1, 0, 4, Integer.MIN_VALUE, Integer.MAX_VALUE}) {
             CHECK.outOfRange("runScript(" + n + ", 100001)", () -> x.runScript(n, 100001));
         }
+        CHECK.outOfRange("runScript(0, 0)", () -> x.runScript(0, 0));
         for (int n = 1; n <= 3; n++) {
             int commands = n;
             CHECK.outOfRange("runScript(n, -1)", () -> x.runScript(commands, -1));

@@ -6,6 +6,8 @@ public final class SlotTest {
         save();
         restore();
         restoreForgets();
+        newOnesAreNew();
+        oldOnesAreOld();
         keepsTheText();
         refuses();
         CHECK.end();
@@ -65,6 +67,60 @@ public final class SlotTest {
         CHECK.due("undo", 1, x.undo());
         CHECK.due("undo", 0, x.undo());
         CHECK.due("the speed", 1, x.boatOf(0, 1));
+    }
+
+    /** What is brought back has nothing of those that stood in its place. */
+    private static void oldOnesAreOld() {
+        LanternBoats x = new LanternBoats();
+        x.save(1);
+        x.light(5, 10, 1, 2, 3, 1);
+        x.boat(9, -1);
+        x.save(0);
+        x.restore(1);
+        x.light(6, 50, 2, 3, 4, 2);
+        x.lean(0, 7);
+        x.boat(6, 1);
+        x.ticks(2);
+        x.talk(0, 8);
+        x.restore(0);
+        int[] light = {5, 10, 1, 2, 3, 1, 0, 0, 0};
+        int[] boat = {9, -1, -1, 0, -1, 0, -1, 0, 0};
+        for (int what = 0; what < 9; what++) {
+            CHECK.due("lightOf(0, " + what + ")", light[what], x.lightOf(0, what));
+            CHECK.due("boatOf(0, " + what + ")", boat[what], x.boatOf(0, what));
+        }
+    }
+
+    /** A lighthouse and a boat that come where others were have nothing of those. */
+    private static void newOnesAreNew() {
+        LanternBoats x = new LanternBoats();
+        x.save(0);
+        x.light(0, 50, 0, 1, 6, 0);
+        x.light(100, 50, 0, 1, 6, 0);
+        x.boat(40, 2);
+        x.ticks(9);
+        x.steer(0, -6);
+        x.ticks(4);
+        x.lean(0, -30);
+        x.lean(1, 30);
+        x.talk(0, 99);
+        x.steer(0, 6);
+        x.ticks(2);
+        int[] before = {46, 6, 0, 97, 1, 2, 1, 2, 1};
+        for (int what = 0; what < 9; what++) {
+            CHECK.due("boatOf(0, " + what + ")", before[what], x.boatOf(0, what));
+        }
+        x.restore(0);
+        x.light(5, 10, 1, 2, 3, 1);
+        x.light(6, 11, 2, 3, 4, 2);
+        x.boat(199, 1);
+        int[][] lights = {{5, 10, 1, 2, 3, 1, 0, 0, 0}, {6, 11, 2, 3, 4, 2, 0, 0, 0}};
+        int[] boat = {199, 1, -1, 0, -1, 0, -1, 0, 0};
+        for (int what = 0; what < 9; what++) {
+            CHECK.due("lightOf(0, " + what + ")", lights[0][what], x.lightOf(0, what));
+            CHECK.due("lightOf(1, " + what + ")", lights[1][what], x.lightOf(1, what));
+            CHECK.due("boatOf(0, " + what + ")", boat[what], x.boatOf(0, what));
+        }
     }
 
     private static void keepsTheText() {

@@ -51,6 +51,12 @@ public final class TextTest {
     }
 
     private static void errorPosition() {
+        LanternBoats x = Coasts.withText("Ct0");
+        CHECK.due("errorPosition", 3, x.errorPosition());
+        x.clearText();
+        CHECK.due("errorPosition of the text that was emptied", 0, x.errorPosition());
+        x.append('t');
+        CHECK.due("errorPosition of the text written then", 0, x.errorPosition());
         error("", 0);
         error("C", -1);
         error("c", 0);
@@ -99,6 +105,12 @@ public final class TextTest {
 
     private static void errorPositionOfEachCommand() {
         error("Cb", 2);
+        error("Cb00006", -1);
+        error("Cb0:006", 3);
+        error("Cb0A006", 3);
+        error("Cb00:06", 4);
+        error("Cb0000:", 6);
+        error("Cb00/06", 4);
         error("Cb2", 2);
         error("Cb19900", -1);
         error("Cb19912", -1);
@@ -147,14 +159,37 @@ public final class TextTest {
         CHECK.due("the speed", -2, x.boatOf(0, 1));
         CHECK.due("the time", 8, x.about(2));
         CHECK.due("the margin", 20, x.setting(0));
-        x.dim(0, 99);
-        x.set(3, 50);
+        makeRich(x);
         CHECK.due("load again", 0, x.load());
         CHECK.holds("load makes everything as in a new object first", Coasts.seen(x).equals(Coasts.seen(y)));
         CHECK.due("load keeps the text", 47, x.clearText());
         CHECK.due("append", 1, x.append('C'));
         CHECK.due("load of a text without commands", 0, x.load());
         CHECK.holds("as a new object", Coasts.seen(x).equals(Coasts.seen(new LanternBoats())));
+    }
+
+    /** Until something else than at first is told of everything. */
+    private static void makeRich(LanternBoats x) {
+        x.dim(0, 99);
+        x.lean(1, 30);
+        x.set(1, 1);
+        x.set(2, 90);
+        x.set(3, 50);
+        x.light(60, 99, 1, 2, 1, 0);
+        for (int b = 1; b < 8; b++) {
+            x.boat(20 * b, b - 3);
+        }
+        for (int i = 0; i < 12; i++) {
+            x.ticks(10);
+            for (int b = 0; b < 8; b++) {
+                if (x.boatOf(b, 2) != LanternBoats.NONE) {
+                    x.talk(b, 99);
+                }
+            }
+        }
+        for (int what = 0; what < 10; what++) {
+            CHECK.holds("about(" + what + ") is more than 0", x.about(what) > 0);
+        }
     }
 
     private static void leftOut(String text, int due) {

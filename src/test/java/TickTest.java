@@ -102,6 +102,12 @@ public final class TickTest {
         CHECK.due("the talk is lost", 0, x.boatOf(0, 3));
         CHECK.due("talks lost", 1, x.about(8));
         CHECK.due("boats that talk", 0, x.about(4));
+        LanternBoats last = leaving(72);
+        last.ticks(1);
+        last.talk(0, 1);
+        last.ticks(1);
+        CHECK.due("a talk is lost in its last tick too", 1, last.about(8));
+        CHECK.due("its ticks", 0, last.boatOf(0, 3));
         LanternBoats y = leaving(72);
         y.ticks(1);
         y.talk(0, 1);
