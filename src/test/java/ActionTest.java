@@ -188,36 +188,54 @@ public final class ActionTest {
     }
 
     private static void undoOfEach() {
+        for (int i = 0; i < 8; i++) {
+            LanternBoats x = behind(i);
+            String before = Coasts.seen(x);
+            act(x, i);
+            CHECK.holds("action " + i + " makes something different", !before.equals(Coasts.seen(x)));
+            // Behind the three calls that made the coast, the ticks and the talk.
+            CHECK.due("undo of action " + i, 5 + i, x.undo());
+            CHECK.holds("undo of action " + i + " brings all back", before.equals(Coasts.seen(x)));
+        }
+        LanternBoats y = behind(8);
+        CHECK.holds("the ticks hand on", y.about(5) > 0);
+        for (int i = 7; i >= 0; i--) {
+            CHECK.due("undo", 5 + i, y.undo());
+        }
+        CHECK.holds("all of them are taken back", Coasts.seen(behind(0)).equals(Coasts.seen(y)));
+        y.ticks(3);
+        CHECK.due("what undo brings back goes on as before", 1, y.about(5));
+    }
+
+    private static LanternBoats behind(int actions) {
         LanternBoats x = Coasts.twoLights(6, 2);
         x.ticks(6);
         x.talk(0, 20);
-        String[] seen = new String[9];
-        seen[0] = Coasts.seen(x);
-        x.light(70, 99, 1, 2, 3, 1);
-        seen[1] = Coasts.seen(x);
-        x.boat(60, -5);
-        seen[2] = Coasts.seen(x);
-        x.steer(0, 6);
-        seen[3] = Coasts.seen(x);
-        x.talk(0, 2);
-        seen[4] = Coasts.seen(x);
-        x.lean(1, 30);
-        seen[5] = Coasts.seen(x);
-        x.dim(1, 80);
-        seen[6] = Coasts.seen(x);
-        x.set(1, 1);
-        seen[7] = Coasts.seen(x);
-        x.ticks(60);
-        seen[8] = Coasts.seen(x);
-        CHECK.holds("the ticks hand on", x.about(5) > 0);
-        for (int i = 7; i >= 0; i--) {
-            CHECK.holds("the actions differ", !seen[i].equals(seen[i + 1]));
-            // Behind the three calls that made the coast, the ticks and the talk.
-            CHECK.due("undo", 5 + i, x.undo());
-            CHECK.holds("undo of action " + i, Coasts.seen(x).equals(seen[i]));
+        for (int i = 0; i < actions; i++) {
+            act(x, i);
         }
-        x.ticks(3);
-        CHECK.due("what undo brings back goes on as before", 1, x.about(5));
+        return x;
+    }
+
+    private static int act(LanternBoats x, int i) {
+        switch (i) {
+            case 0:
+                return x.light(70, 99, 1, 2, 3, 1);
+            case 1:
+                return x.boat(60, -5);
+            case 2:
+                return x.steer(0, 6);
+            case 3:
+                return x.talk(0, 2);
+            case 4:
+                return x.lean(1, 30);
+            case 5:
+                return x.dim(1, 80);
+            case 6:
+                return x.set(1, 1);
+            default:
+                return x.ticks(60);
+        }
     }
 
     private static void undoForgetsTheOldest() {

@@ -5,10 +5,11 @@ import java.util.Arrays;
 import java.util.Comparator;
 import java.util.Random;
 
-/** Runs of 512 calls by chance, from fixed seeds: the class answers each as the model of the document does. */
+/** Runs of 508 calls by chance, from fixed seeds: the class answers each as the model of the document does. */
 public final class ModelTest {
     private static final int RUNS = 600;
-    private static final int CALLS = 512;
+    // Four less than an object is used for: about() is asked behind them.
+    private static final int CALLS = 508;
     private static final int[] WILD = {-1, Integer.MIN_VALUE, Integer.MAX_VALUE, 1000, -1000};
     private static final String[] OFTEN = {"ticks", "ticks", "ticks", "boat", "light", "talk", "steer", "lean", "dim",
         "set", "handedIn", "ifMargin", "boatOf", "lightOf", "about", "append"};

@@ -180,7 +180,7 @@ public final class ScriptTest {
                 + Math.min(99, x.about(8) - lost);
     }
 
-    private static void turn(LanternBoats x, int kind, int q) {
+    static void turn(LanternBoats x, int kind, int q) {
         switch (kind) {
             case 0:
             case 1:
